@@ -122,6 +122,17 @@ public final class ActsEdgeTest {
     course("m6,0;w0;w0;w0;", "0 -1 -1", "1 0 -1", "2 1 0", "3 2 1", "4 3 2", "5 4 3", "5 4 3");
     course("m9,0;w0;r0;", "0 -1", "1 0", "2 1", "3 2", "4 3");
     course("m9,0;r0;w0;", "0 -1", "2 0", "4 1", "6 2", "8 3", "8 4");
+    // whatever their numbers
+    StepRiders x = Check.of("m9,0;w0;w0;");
+    x.take(0);
+    x.ticks(1);
+    x.again(0, 0);
+    c.course(x, "0 1", "1 2", "2 3", "3 4");
+    StepRiders y = Check.of("m9,0;w1;w0;s0;s0;s0;s0;w1;");
+    for (int r = 0; r < 6; r++) y.take(r);
+    c.course(y, "99 99 99 99 99 99 0", "99 99 99 99 99 99 1");
+    y.again(0, 1);
+    c.course(y, "0 99 99 99 99 99 2", "1 99 99 99 99 99 3");
     // the upper child looks first, and finds the lower one still there
     course("m12,1;c0;c0;", "0 -1", "1 0", "2 1", "3 1", "4 2", "4 2");
   }

@@ -267,6 +267,27 @@ public final class ForetoldEdgeTest {
     paces(w, 0, 6, 1, 0, 0, 0, 0, 0, 1);
   }
 
+  @Holds("by which the RIDER is OFF behind them,")
+  static void paceAskedAnew() {
+    // the first of all calls, of one who is off: nothing is left from calls before
+    for (int n = 1; n <= 6; n++) {
+      StepRiders x = Check.of("m4,2;s0;s0;");
+      x.take(0);
+      c.due("of one who is off, n = " + n, x.pace(0, n, -1), 0);
+    }
+    // and what calls before have left is not taken for what is now
+    StepRiders y = Check.of("m4,0;s0;");
+    paces(y, 0, 3, 4, 0, 2, 2);
+    y.ticks(1);
+    paces(y, 0, 3, 4, 0, 2, 2);
+    paces(y, 0, 2, 4, 2, 2);
+    y.take(0);
+    paces(y, 0, 3, 0, 0, 0, 0);
+    y.again(0, 0);
+    paces(y, 0, 2, Check.NONE);
+    paces(y, 0, 3, 4, 0, 2, 2);
+  }
+
   @Holds("of several the first (by numbers, TICK by TICK): how much; SPEED of the k-th TICK; NONE.")
   static void paceOfSeveralTheFirst() {
     StepRiders x = Check.of("m4,2;s0;");

@@ -84,6 +84,12 @@ public final class RowsEdgeTest {
     c.due("a longer one", x.row(0, 2, 4), 4);
     c.same("all items are 0 again", Check.items(x, 0), "0 0 0 0");
     c.same("the other stays", Check.items(x, 1), "8 9");
+    for (int w = 0; w < 3; w++) {
+      x.row(2, w, 40);
+      for (int i = 0; i < 40; i++) x.set(2, i, 1 + i % 11);
+      x.row(2, 2 - w, 40);
+      c.same("none of forty is left", Check.items(x, 2), zeros(40));
+    }
   }
 
   @Holds("4 SIZE (fewer than none)")

@@ -63,6 +63,14 @@ public final class SeenEdgeTest {
     fits(x, 2, at(100), 0, 0, 0, 0);
     fits(x, 1, at(-2), 0, 0, 0, 0);
     fits(x, 1, at(Check.MIN), 0, 0, 0, 0);
+    // the STEP beyond the uppermost is nowhere
+    for (int m : new int[] {4, 12})
+      for (int speed = 0; speed < 3; speed++) {
+        StepRiders y = Check.of("m" + m + "," + speed + ";w0;");
+        y.ticks(1);
+        fits(y, 0, at(m), 0, 0, 0, 0);
+        fits(y, 0, at(m + 1), 0, 0, 0, 0);
+      }
   }
 
   @Holds({"SORTS: KINDS (bits 1 to 5) of it by which it is so (also if its places are not FREE for it then);"})

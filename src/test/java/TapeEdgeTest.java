@@ -235,6 +235,21 @@ public final class TapeEdgeTest {
     c.places("all in the queue", x, "-1 -1");
   }
 
+  @Holds("A STAIR that is read stands in place of the one before")
+  static void anotherStairLeavesTheRest() {
+    StepRiders x = used();
+    Check.read(x, "m3");
+    Check.read(x, "m5,1;w0;c0;");
+    c.due("rows", x.count(0), 1);
+    c.due("the trace", x.trace(0) * 100 + x.trace(5), 1220);
+    c.due("the fault", x.fault(), 2);
+    c.due("status()", x.status(), 2);
+    c.due("an image that was not kept", x.restore(0), Check.STATE);
+    c.due("an image that was", x.restore(1), 1);
+    c.places("as kept", x, "4 1 0 -1");
+    c.same("items", Check.items(x, 1), "4 5");
+  }
+
   @Holds({"FAULTS, the first TOKEN that has one (its first byte), of one TOKEN the least: 1 it cannot stand there, or is none"})
   static void firstAndLeastFault() {
     fault("m3,3;x", 1, 2);
