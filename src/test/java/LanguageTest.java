@@ -44,7 +44,7 @@ import javax.tools.ToolProvider;
  * makes of it. (FaceTest holds the face and the words.)
  */
 public final class LanguageTest extends TreePathScanner<Void, Void> {
-  /** Rule 7: divisors that are no constants, each by the place that looks at it before. */
+  /** Rule 7: divisors that are no constants; that each is looked at before was seen by reading, not by this test. */
   private static final Set<String> DIVISORS = Set.of("greater % less", "above / common", "below / common", "x % riders");
   private static final Set<String> TYPES = Set.of("int", "long", "boolean", "int[]");
   private static final Set<String> LIBRARY = Set.of("System.arraycopy", "Integer.bitCount", "Math.max", "Math.min");
